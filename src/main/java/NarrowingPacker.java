@@ -378,7 +378,7 @@ public final class NarrowingPacker {
             return stands ? bytes.row[bytes.count - distance] : 0;
         }
 
-        /** Behind a literal the byte at R0 tells nothing: it was just told otherwise. */
+        /** The states from 7 on are those behind a match, an echo or a short. */
         boolean isBehindACopy() {
             return state >= FIRST_STATE_BEHIND_A_COPY;
         }
