@@ -567,7 +567,7 @@ public final class NarrowingPacker {
 
         /** What doesn't fit will be refused, so its digits need not be known. */
         private void raiseLow(long bound) {
-            if (!fits()) {
+            if (length > PACKED_ROOM) {
                 return;
             }
             long carry = bound;

@@ -34,7 +34,10 @@ final class Checks {
         }
     }
 
-    /** Everything that the face tells without changing anything, a little beyond the edges too. */
+    /**
+     * Everything that the face tells without changing anything, a little beyond the edges too. These
+     * are more looks than an object has calls; the class counts none, and CallsTest keeps to 512.
+     */
     static String snapshot(NarrowingPacker x) {
         StringBuilder text = new StringBuilder();
         text.append("size ").append(x.size()).append(" told ").append(x.told());

@@ -15,7 +15,10 @@ public final class PackTest {
         test.sourceStaysAndPackedGoes();
         test.packetsStay();
         test.fullSources();
+        test.longestListOfPackets();
         test.chances();
+        test.nothingWasPacked();
+        test.chancesOnBothSides();
         test.chancesStay();
         test.checks.end("PackTest");
     }
@@ -152,6 +155,72 @@ public final class PackTest {
         }
     }
 
+    /** As many packets as the source can have bytes; then none, then one. */
+    private void longestListOfPackets() {
+        NarrowingPacker x = new NarrowingPacker(1);
+        for (int k = 0; k < 120; k++) {
+            x.type(k);
+        }
+        x.pack();
+        checks.same("packets()", x.packets(), 120);
+        checks.same("packet(119, 2)", x.packet(119, 2), 119);
+        checks.same("packet(120, 2)", x.packet(120, 2), -1);
+        x.wipe();
+        checks.same("packets() behind wipe()", x.packets(), 120);
+        x.pack();
+        checks.same("packets() of nothing", x.packets(), 0);
+        checks.same("packet(0, 0) of nothing", x.packet(0, 0), -1);
+        x.type(0);
+        checks.same("packets() behind type()", x.packets(), 0);
+        x.pack();
+        checks.same("packets() of one", x.packets(), 1);
+        checks.same("packet(1, 0) of one", x.packet(1, 0), -1);
+    }
+
+    /** Promises 5 to 7: unpacking, adding and typing pack nothing. */
+    private void nothingWasPacked() {
+        NarrowingPacker x = new NarrowingPacker(4);
+        Checks.typeAll(x, "abab");
+        Checks.addAll(x, new Script().literal(1).literal(2).end().bytes());
+        checks.same("unpack()", x.unpack(), 2);
+        checks.same("packets()", x.packets(), 0);
+        checks.same("packet(0, 0)", x.packet(0, 0), -1);
+        for (int k = 0; k < 72; k++) {
+            checks.same("chance(" + k / 12 + ", " + k % 12 + ")", x.chance(k / 12, k % 12), -1);
+        }
+        x.pack();
+        for (int k = 0; k < 72; k++) {
+            checks.yes("chance(" + k / 12 + ", " + k % 12 + ")", x.chance(k / 12, k % 12) > 0);
+        }
+    }
+
+    private void chancesOnBothSides() {
+        NarrowingPacker x = new NarrowingPacker(4);
+        x.pack();
+        int[] wrong = {Integer.MIN_VALUE, -12, -1};
+        int[] right = {0, 5, 11};
+        for (int name : new int[] {-1, 6, 7, Integer.MIN_VALUE, Integer.MAX_VALUE}) {
+            for (int state : right) {
+                checks.same("chance(" + name + ", " + state + ")", x.chance(name, state), -1);
+            }
+        }
+        for (int name = 0; name < 6; name++) {
+            for (int state : wrong) {
+                checks.same("chance(" + name + ", " + state + ")", x.chance(name, state), -1);
+            }
+            for (int state : new int[] {12, 13, 72, Integer.MAX_VALUE}) {
+                checks.same("chance(" + name + ", " + state + ")", x.chance(name, state), -1);
+            }
+            checks.yes("chance(" + name + ", 0)", x.chance(name, 0) > 0);
+            checks.same("chance(" + name + ", 11)", x.chance(name, 11), 1024);
+        }
+        // One is wrong, though the place that both would make together is there.
+        checks.same("chance(-1, 12)", x.chance(-1, 12), -1);
+        checks.same("chance(1, -1)", x.chance(1, -1), -1);
+        checks.same("chance(0, 12)", x.chance(0, 12), -1);
+        checks.same("chance(6, -12)", x.chance(6, -12), -1);
+    }
+
     /** Promise 7. */
     private void chances() {
         NarrowingPacker x = new NarrowingPacker(4);
@@ -162,12 +231,6 @@ public final class PackTest {
         checks.same("chance(1, 0)", x.chance(1, 0), 1024 + 32);
         checks.same("chance(2, 0)", x.chance(2, 0), 1024);
         checks.same("chance(5, 11)", x.chance(5, 11), 1024);
-        for (int wrong : new int[] {-1, 6, Integer.MIN_VALUE, Integer.MAX_VALUE}) {
-            checks.same("chance(" + wrong + ", 0)", x.chance(wrong, 0), -1);
-        }
-        for (int wrong : new int[] {-1, 12, 13, Integer.MIN_VALUE, Integer.MAX_VALUE}) {
-            checks.same("chance(0, " + wrong + ")", x.chance(0, wrong), -1);
-        }
         Script script = new Script().literal('a').literal('b').literal('c').literal('d');
         script.match(4, 4).literal('e').match(2, 2).literal('f').echo(1, 3).end();
         NarrowingPacker y = packedAs("abcdabcdedefede", script);

@@ -9,8 +9,11 @@ public final class PackedTest {
         test.addAndAt();
         test.addRefuses();
         test.addBehindAPacking();
+        test.addBehindAFullPacking();
         test.put();
+        test.putOfFullBytes();
         test.cut();
+        test.cutAtItsEdges();
         test.checks.end("PackedTest");
     }
 
@@ -55,6 +58,26 @@ public final class PackedTest {
         checks.same("bytes", Arrays.toString(Checks.packedBytes(x)), "[131, 191, 252, 0, 0, 7]");
     }
 
+    /** A packing is filled up to 200; the next packing takes the place of all of it. */
+    private void addBehindAFullPacking() {
+        NarrowingPacker x = new NarrowingPacker(4);
+        Checks.typeAll(x, "abcabcabcabd");
+        int size = x.pack();
+        int[] packed = Checks.packedBytes(x);
+        for (int k = size; k < 200; k++) {
+            checks.same("add, " + k + " before", x.add(255), true);
+        }
+        checks.same("add, 200 before", x.add(255), false);
+        checks.same("size()", x.size(), 200);
+        checks.same("the packing's bytes",
+                Arrays.toString(Arrays.copyOf(Checks.packedBytes(x), size)), Arrays.toString(packed));
+        checks.same("pack()", x.pack(), size);
+        checks.same("size()", x.size(), size);
+        checks.same("at(size())", x.at(size), -1);
+        checks.same("add() behind it", x.add(0), true);
+        checks.same("at(size() - 1)", x.at(size), 0);
+    }
+
     /** Promise 11. */
     private void put() {
         NarrowingPacker x = new NarrowingPacker(4);
@@ -75,6 +98,43 @@ public final class PackedTest {
         }
         x.cut(1);
         checks.refused("put(1, 1) behind cut(1)", noSuch, x, () -> x.put(1, 1));
+    }
+
+    private static NarrowingPacker full() {
+        NarrowingPacker x = new NarrowingPacker(4);
+        for (int k = 0; k < 200; k++) {
+            x.add(k);
+        }
+        return x;
+    }
+
+    private void putOfFullBytes() {
+        NarrowingPacker x = full();
+        checks.same("put(199, 0)", x.put(199, 0), 199);
+        checks.same("put(199, 255)", x.put(199, 255), 0);
+        checks.same("at(199)", x.at(199), 255);
+        checks.same("at(198)", x.at(198), 198);
+        checks.same("size()", x.size(), 200);
+        checks.refused("put(200, 0)", IndexOutOfBoundsException.class, x, () -> x.put(200, 0));
+        checks.refused("put(199, 256)", IllegalArgumentException.class, x, () -> x.put(199, 256));
+    }
+
+    private void cutAtItsEdges() {
+        NarrowingPacker x = full();
+        checks.same("cut(201)", x.cut(201), 0);
+        checks.same("cut(200)", x.cut(200), 0);
+        checks.same("at(199)", x.at(199), 199);
+        checks.same("cut(199)", x.cut(199), 1);
+        checks.same("at(199)", x.at(199), -1);
+        checks.same("at(198)", x.at(198), 198);
+        checks.same("cut(1)", x.cut(1), 198);
+        checks.same("at(0)", x.at(0), 0);
+        checks.same("at(1)", x.at(1), -1);
+        checks.same("cut(0)", x.cut(0), 1);
+        checks.same("cut(0) again", x.cut(0), 0);
+        checks.same("add() behind it", x.add(9), true);
+        checks.same("at(0)", x.at(0), 9);
+        checks.same("at(1)", x.at(1), -1);
     }
 
     /** Promise 12. */

@@ -15,6 +15,10 @@ final class Script {
     final List<Integer> told = new ArrayList<>();
     final int[] last = {1, 1, 1, 1};
     int s;
+    /** Through how many digits of 255 the longest carry beyond the last four digits ran. */
+    int longestCarry;
+    /** Every range that a bit left, before it was perhaps multiplied. */
+    final List<Long> ranges = new ArrayList<>();
     private BigInteger low = BigInteger.ZERO;
     private long range = 4294967295L;
     private int digits = 4;
@@ -30,16 +34,49 @@ final class Script {
             range = b;
             chances.put(name, p + (2048 - p) / 32);
         } else {
-            low = low.add(BigInteger.valueOf(b));
+            raiseLow(b);
             range = range - b;
             chances.put(name, p - p / 32);
         }
+        ranges.add(range);
         if (range < 16777216L) {
             range = range * 256;
             low = low.multiply(BASE);
             digits++;
         }
         return this;
+    }
+
+    private void raiseLow(long b) {
+        BigInteger before = low.shiftRight(32);
+        low = low.add(BigInteger.valueOf(b));
+        if (!before.equals(low.shiftRight(32))) {
+            int ones = before.not().getLowestSetBit();
+            longestCarry = Math.max(longestCarry, ones / 8);
+        }
+    }
+
+    /**
+     * Bits as the document tells them: "M 0=1" is the bit 1 with the chance [M 0], "D 2>0110" a tree
+     * or a row under D 2, its bits in the order in which they are given.
+     */
+    Script spell(String parts) {
+        for (String part : parts.replaceFirst("^, ", "").split(", ")) {
+            int sign = Math.max(part.indexOf('='), part.indexOf('>'));
+            String name = part.substring(0, sign);
+            String bits = part.substring(sign + 1);
+            if (part.charAt(sign) == '=') {
+                bit(name, bits.charAt(0) - '0');
+            } else {
+                bitsUnder(name, bits);
+            }
+        }
+        return this;
+    }
+
+    /** END spelled in the state s, to be put behind other bits. */
+    static String endIn(int s) {
+        return ", M " + s + "=1, R " + s + "=0, match 0=0, match low>000, D 0>1111";
     }
 
     /** The bits of v as the digits say, each under the name and the digits given before it. */

@@ -10,6 +10,7 @@ public final class SourceTest {
         test.limitIsMadeToFit();
         test.typeTakesBytes();
         test.typeRefuses();
+        test.refusedBytesAreNotThere();
         test.wipeEmptiesTheSourceAlone();
         test.checks.end("SourceTest");
     }
@@ -86,6 +87,29 @@ public final class SourceTest {
         checks.same("wipe()", x.wipe(), 120);
         checks.same("type, wiped before", x.type(7), true);
         checks.same("wipe()", x.wipe(), 1);
+    }
+
+    /** Neither a wrong byte nor the 121st leaves anything in the source. */
+    private void refusedBytesAreNotThere() {
+        NarrowingPacker x = new NarrowingPacker(4);
+        int[] due = new int[120];
+        for (int k = 0; k < 120; k++) {
+            due[k] = 255 - k;
+            x.type(-1);
+            x.type(due[k]);
+            x.type(256);
+        }
+        for (int b : new int[] {0, 255, -1, 256}) {
+            checks.same("type(" + b + "), 120 before", x.type(b), false);
+        }
+        x.pack();
+        checks.same("unpack()", x.unpack(), 120);
+        checks.same("the bytes", Arrays.toString(Checks.resultBytes(x)), Arrays.toString(due));
+        checks.same("wipe()", x.wipe(), 120);
+        for (int k = 0; k < 120; k++) {
+            checks.same("type, wiped, " + k + " before", x.type(k), true);
+        }
+        checks.same("type, wiped, 120 before", x.type(0), false);
     }
 
     /** Promise 3. */
