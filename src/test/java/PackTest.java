@@ -1,4 +1,5 @@
 import java.util.Arrays;
+import java.util.List;
 
 /** Promises 4 (pack), 5 (packets) and 7 (chance): the packed bytes are those of a script. */
 public final class PackTest {
@@ -125,18 +126,33 @@ public final class PackTest {
         checks.same("packets() before", x.packets(), 0);
         x.pack();
         checks.same("packets()", x.packets(), 5);
-        x.type(3);
-        x.unpack();
-        x.put(2, 17);
-        x.cut(1);
-        x.add(4);
-        Checks.outcome(x::unpack);
+        String packets = Checks.packetsOf(x);
+        checks.same("the packets", packets, "L97 L98 L99 M8@3 L100");
+        for (Runnable change : changes(x)) {
+            change.run();
+            checks.same("packets() behind a change", x.packets(), 5);
+            checks.same("the packets behind a change", Checks.packetsOf(x), packets);
+        }
         x.wipe();
-        checks.same("packets() behind changes", x.packets(), 5);
-        checks.same("packet(3, 1) behind changes", x.packet(3, 1), 8);
         x.pack();
         checks.same("packets() of nothing", x.packets(), 0);
         checks.same("packet(0, 0) of nothing", x.packet(0, 0), -1);
+    }
+
+    /** Calls that change source, packed bytes and result, but pack nothing. */
+    private static List<Runnable> changes(NarrowingPacker x) {
+        return List.of(
+                () -> x.type(3),
+                () -> x.unpack(),
+                () -> x.wipe(),
+                () -> Checks.typeAll(x, "xyz"),
+                () -> x.put(2, 17),
+                () -> Checks.outcome(x::unpack),
+                () -> x.add(4),
+                () -> x.cut(1),
+                () -> x.cut(0),
+                () -> Checks.addAll(x, new Script().literal(1).literal(2).shortly().end().bytes()),
+                () -> x.unpack());
     }
 
     /** No source can need more than 200 bytes; those that are dearest stay well below. */
@@ -242,17 +258,28 @@ public final class PackTest {
         }
     }
 
+    /** Nothing but pack() learns. */
     private void chancesStay() {
         NarrowingPacker x = new NarrowingPacker(4);
         Checks.typeAll(x, "aaaabaaab");
         x.pack();
-        int before = x.chance(0, 0);
-        checks.yes("learned", before != 1024);
-        x.cut(0);
-        Checks.addAll(x, new Script().literal(1).literal(2).literal(3).literal(4).end().bytes());
-        checks.same("unpack()", x.unpack(), 4);
-        checks.same("chance(0, 0) behind an unpacking", x.chance(0, 0), before);
+        checks.yes("learned", x.chance(0, 0) != 1024);
+        String before = chancesOf(x);
+        for (Runnable change : changes(x)) {
+            change.run();
+            checks.same("the chances behind a change", chancesOf(x), before);
+        }
         x.wipe();
-        checks.same("chance(0, 0) behind wipe()", x.chance(0, 0), before);
+        x.pack();
+        checks.same("chance(0, 0) of nothing", x.chance(0, 0), 1024 - 32);
+        checks.same("chance(2, 0) of nothing", x.chance(2, 0), 1024);
+    }
+
+    private static String chancesOf(NarrowingPacker x) {
+        StringBuilder text = new StringBuilder();
+        for (int k = 0; k < 72; k++) {
+            text.append(x.chance(k / 12, k % 12)).append(' ');
+        }
+        return text.toString();
     }
 }

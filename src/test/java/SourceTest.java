@@ -11,6 +11,7 @@ public final class SourceTest {
         test.typeTakesBytes();
         test.typeRefuses();
         test.refusedBytesAreNotThere();
+        test.wipedSourceHasAllItsRoom();
         test.wipeEmptiesTheSourceAlone();
         test.checks.end("SourceTest");
     }
@@ -105,6 +106,14 @@ public final class SourceTest {
         x.pack();
         checks.same("unpack()", x.unpack(), 120);
         checks.same("the bytes", Arrays.toString(Checks.resultBytes(x)), Arrays.toString(due));
+        checks.same("wipe()", x.wipe(), 120);
+    }
+
+    private void wipedSourceHasAllItsRoom() {
+        NarrowingPacker x = new NarrowingPacker(4);
+        for (int k = 0; k < 120; k++) {
+            x.type(k);
+        }
         checks.same("wipe()", x.wipe(), 120);
         for (int k = 0; k < 120; k++) {
             checks.same("type, wiped, " + k + " before", x.type(k), true);
