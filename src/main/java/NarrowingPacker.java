@@ -75,12 +75,9 @@ public final class NarrowingPacker {
 
     private PacketList newPackets;
     private final Packet current;
-    private final Chances chances;
     private final History history;
     private final Chooser chooser;
-    private final Narrower narrower;
     private final PacketWriter writer;
-    private final Follower follower;
     private final PacketReader reader;
 
     public NarrowingPacker(int limit) {
@@ -91,13 +88,10 @@ public final class NarrowingPacker {
         keptPackets = new PacketList();
         newPackets = new PacketList();
         current = new Packet();
-        chances = new Chances();
         history = new History();
         chooser = new Chooser(Math.max(1, Math.min(HIGHEST_LIMIT, limit)));
-        narrower = new Narrower(chances);
-        writer = new PacketWriter(narrower);
-        follower = new Follower(chances, packed);
-        reader = new PacketReader(follower);
+        writer = new PacketWriter();
+        reader = new PacketReader();
     }
 
     public boolean type(int b) {
@@ -109,15 +103,14 @@ public final class NarrowingPacker {
     }
 
     public int pack() throws IllegalStateException {
-        chances.forget();
         history.restart();
-        narrower.restart();
         newPackets.clear();
+        writer.narrower.restart();
         writeSource();
-        if (!narrower.fits()) {
+        if (!writer.narrower.fits()) {
             throw new IllegalStateException("more packed bytes than there is room for");
         }
-        keepPacking();
+        keepPacking(writer.narrower);
         return packed.count;
     }
 
@@ -175,9 +168,8 @@ public final class NarrowingPacker {
                     IllegalArgumentException,
                     IndexOutOfBoundsException,
                     IllegalStateException {
-        chances.forget();
         history.restart();
-        follower.restart();
+        reader.follower.restart(packed);
         // Each packet but END tells a byte or more, so one more than there is room for is refused.
         for (int packetsRead = 0; packetsRead <= RESULT_ROOM; packetsRead++) {
             reader.readPacket(current, history);
@@ -187,7 +179,7 @@ public final class NarrowingPacker {
             refuseWhatCannotBeTold();
             history.tell(current);
         }
-        follower.refuseWhatIsLeft();
+        reader.follower.refuseWhatIsLeft();
         result.copy(history.bytes.row, history.bytes.count);
         return result.count;
     }
@@ -215,9 +207,9 @@ public final class NarrowingPacker {
         writer.writePacket(current, history);
     }
 
-    private void keepPacking() {
+    private void keepPacking(Narrower narrower) {
         packed.copy(narrower.digits, narrower.length);
-        System.arraycopy(chances.row, 0, keptChances, 0, CHANCES_BY_STATE);
+        System.arraycopy(narrower.chances.row, 0, keptChances, 0, CHANCES_BY_STATE);
         PacketList old = keptPackets;
         keptPackets = newPackets;
         newPackets = old;
@@ -513,16 +505,13 @@ public final class NarrowingPacker {
 
     /** Turns bits into digits to the base 256: LOW is their number. */
     private static final class Narrower {
-        private final Chances chances;
+        private final Chances chances = new Chances();
         private final int[] digits = new int[PACKED_ROOM];
         private int length;
         private long range;
 
-        Narrower(Chances chances) {
-            this.chances = chances;
-        }
-
         void restart() {
+            chances.forget();
             Arrays.fill(digits, 0);
             length = FIRST_DIGITS;
             range = FIRST_RANGE;
@@ -581,11 +570,7 @@ public final class NarrowingPacker {
 
     /** Turns packets into bits. */
     private static final class PacketWriter {
-        private final Narrower narrower;
-
-        PacketWriter(Narrower narrower) {
-            this.narrower = narrower;
-        }
+        private final Narrower narrower = new Narrower();
 
         void writePacket(Packet p, History history) {
             int s = history.state;
@@ -681,18 +666,15 @@ public final class NarrowingPacker {
 
     /** Turns packed bytes back into bits, following the range that was narrowed. */
     private static final class Follower {
-        private final Chances chances;
-        private final Bytes packed;
+        private final Chances chances = new Chances();
+        private final Bytes packed = new Bytes(PACKED_ROOM);
         private int next;
         private long code;
         private long range;
 
-        Follower(Chances chances, Bytes packed) {
-            this.chances = chances;
-            this.packed = packed;
-        }
-
-        void restart() {
+        void restart(Bytes from) {
+            chances.forget();
+            packed.copy(from.row, from.count);
             next = 0;
             code = 0;
             range = FIRST_RANGE;
@@ -757,11 +739,7 @@ public final class NarrowingPacker {
 
     /** Turns bits back into packets. */
     private static final class PacketReader {
-        private final Follower follower;
-
-        PacketReader(Follower follower) {
-            this.follower = follower;
-        }
+        private final Follower follower = new Follower();
 
         void readPacket(Packet p, History history) {
             int s = history.state;

@@ -1,7 +1,12 @@
 import com.sun.management.ThreadMXBean;
 import java.lang.management.ManagementFactory;
+import java.lang.reflect.Field;
+import java.lang.reflect.Modifier;
 import java.util.Arrays;
+import java.util.Collections;
+import java.util.IdentityHashMap;
 import java.util.NoSuchElementException;
+import java.util.Set;
 
 /** "An object is used for at most 512 calls": the last of them is answered like the first. */
 public final class CallsTest {
@@ -9,7 +14,7 @@ public final class CallsTest {
 
     private final Checks checks = new Checks();
 
-    public static void main(String[] args) {
+    public static void main(String[] args) throws IllegalAccessException {
         CallsTest test = new CallsTest();
         test.packAndUnpackToTheLastCall();
         test.eachTimeAnotherSource();
@@ -17,6 +22,7 @@ public final class CallsTest {
         test.refusalsToTheLastCall();
         test.objectsShareNothing();
         test.callsMakeNoObjects();
+        test.oneObjectIsSmall();
         test.checks.end("CallsTest");
     }
 
@@ -113,5 +119,31 @@ public final class CallsTest {
         }
         long made = threads.getThreadAllocatedBytes(thread) - before;
         checks.yes("380 calls made " + made + " bytes of objects", made < 10_000);
+    }
+
+    /** The room holds some 600,000 objects and 7.3 million fields and elements. */
+    private void oneObjectIsSmall() throws IllegalAccessException {
+        Set<Object> found = Collections.newSetFromMap(new IdentityHashMap<>());
+        int fields = fieldsFrom(new NarrowingPacker(16), found);
+        checks.yes("objects of one packer: " + found.size(), found.size() < 60);
+        checks.yes("fields and elements of one packer: " + fields, fields < 12_000);
+    }
+
+    /** The fields and elements of an object and of all that it holds and that is not found yet. */
+    private static int fieldsFrom(Object x, Set<Object> found) throws IllegalAccessException {
+        if (x == null || !found.add(x)) {
+            return 0;
+        }
+        if (x instanceof int[] row) {
+            return row.length;
+        }
+        int fields = 0;
+        for (Field f : x.getClass().getDeclaredFields()) {
+            if (!Modifier.isStatic(f.getModifiers())) {
+                f.setAccessible(true);
+                fields += 1 + (f.getType().isPrimitive() ? 0 : fieldsFrom(f.get(x), found));
+            }
+        }
+        return fields;
     }
 }

@@ -1,14 +1,8 @@
 import java.io.IOException;
 import java.lang.reflect.InvocationTargetException;
 import java.lang.reflect.Method;
-import java.net.URL;
-import java.net.URLClassLoader;
 import java.nio.file.Files;
 import java.nio.file.Path;
-import java.util.Comparator;
-import java.util.List;
-import java.util.stream.Stream;
-import javax.tools.ToolProvider;
 
 /**
  * "IllegalState: it would be more than 200" (promise 4). A calculation shows that no source can need
@@ -24,12 +18,9 @@ public final class PackedRoomTest {
     public static void main(String[] args) throws Exception {
         PackedRoomTest test = new PackedRoomTest();
         test.noSourceNeedsMore();
-        Path dir = Files.createTempDirectory("narrow");
-        try (URLClassLoader loader = test.compiled(dir)) {
-            test.narrowClass = loader.loadClass("NarrowingPacker");
+        try (Compiling narrow = new Compiling("NarrowingPacker", test.narrowText(), null)) {
+            test.narrowClass = narrow.made;
             test.roomIsKept();
-        } finally {
-            delete(dir);
         }
         test.checks.end("PackedRoomTest");
     }
@@ -62,24 +53,10 @@ public final class PackedRoomTest {
         return -Math.log(p / 2048.0 * (1 - 1 / 8192.0)) / Math.log(2);
     }
 
-    private URLClassLoader compiled(Path dir) throws IOException {
+    private String narrowText() throws IOException {
         String text = Files.readString(Path.of("src/main/java/NarrowingPacker.java"));
         checks.same("the room stands once", text.split(ROOM, -1).length, 2);
-        Path file = dir.resolve("NarrowingPacker.java");
-        Files.writeString(file, text.replace(ROOM, "PACKED_ROOM = " + NARROW + ";"));
-        int code = ToolProvider.getSystemJavaCompiler()
-                .run(null, null, null, "-d", dir.toString(), file.toString());
-        checks.same("javac", code, 0);
-        return new URLClassLoader(new URL[] {dir.toUri().toURL()}, null);
-    }
-
-    private static void delete(Path dir) throws IOException {
-        try (Stream<Path> files = Files.walk(dir)) {
-            List<Path> deepestFirst = files.sorted(Comparator.reverseOrder()).toList();
-            for (Path file : deepestFirst) {
-                Files.delete(file);
-            }
-        }
+        return text.replace(ROOM, "PACKED_ROOM = " + NARROW + ";");
     }
 
     /** Of 19, 20 and 21 bytes the last are too many. */
